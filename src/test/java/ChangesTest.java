@@ -10,6 +10,7 @@ public final class ChangesTest {
         readErrorsInOrder();
         drop();
         move();
+        fullBoard();
         due();
         order();
         orderIsStable();
@@ -166,6 +167,23 @@ public final class ChangesTest {
         // Washes of 2, 2, 15 + 2 * 2 and 2: printed at 14, 38, 66, 103, 135.
         Check.due("count(12)", x.count(12), 14 + 38 + 66 + 103 + 135 - 15);
         Check.due("move(0, 0)", x.move(0, 0), 14 + 38 + 66 + 103 + 135 - 15);
+    }
+
+    private static void fullBoard() {
+        PrintRacks x = new PrintRacks();
+        for (int number = 0; number < 12; number++) {
+            x.job(0, 0, number + 1, 3000);
+        }
+        Check.due("move(0, 11)", x.move(0, 11), 0);
+        Check.due("the first is the last now", x.jobOf(11, 2), 1);
+        Check.due("the last has moved by one", x.jobOf(10, 2), 12);
+        Check.due("move(11, 0)", x.move(11, 0), 0);
+        Check.due("the last is the first now", x.jobOf(0, 2), 1);
+        Check.due("move(0, 12)", x.move(0, 12), PrintRacks.NO_SUCH);
+        Check.due("bestFirst()", x.bestFirst(), 0);
+        Check.due("bestExchange(0)", x.bestExchange(0), PrintRacks.NONE);
+        Check.due("drop(11)", x.drop(11), 11);
+        Check.due("hundreds then", x.count(8), 66);
     }
 
     private static void due() {

@@ -11,6 +11,8 @@ public final class ViewsTest {
         countErrors();
         at();
         atErrors();
+        jobsThatWereDropped();
+        racksOfAMinute();
         viewsChangeNothing();
         Check.end();
     }
@@ -140,6 +142,37 @@ public final class ViewsTest {
         Check.due("at(100000, 0)", x.at(100000, 0), PrintRacks.BAD_VALUE);
         Check.due("at(0, -1)", x.at(0, -1), PrintRacks.BAD_VALUE);
         Check.due("at(0, 4)", x.at(0, 4), PrintRacks.BAD_VALUE);
+    }
+
+    private static void jobsThatWereDropped() {
+        PrintRacks x = Check.board("p0s0n1d100;p0s0n20d0");
+        Check.due("the most racks at once", x.count(17), 4);
+        Check.due("the most minutes late", x.count(13), 154);
+        x.drop(1);
+        Check.due("hundreds", x.count(8), 1);
+        Check.due("the most racks at once", x.count(17), 1);
+        Check.due("the most minutes late", x.count(13), 0);
+        Check.due("racks at 14", x.at(14, 1), 1);
+        Check.due("racks at 100", x.at(100, 1), 0);
+        Check.due("printed at 200", x.at(200, 2), 1);
+        Check.due("none on the press at 50", x.at(50, 0), PrintRacks.NONE);
+        Check.due("the racks of a job that is off do not count", x.set(PrintRacks.HOLD, 1), 5);
+        Check.due("nor for the least racks", x.leastRacks(), 4);
+    }
+
+    private static void racksOfAMinute() {
+        PrintRacks x = Check.board("p0s0n20d98;p0s0n1d99");
+        x.set(PrintRacks.DRY, 4);
+        Check.due("dry as the next one is printed: not at once", x.count(17), 4);
+        Check.due("nobody is late", x.count(11), 0);
+        x.set(PrintRacks.DRY, 5);
+        Check.due("dry a minute later: at once", x.count(17), 5);
+        x.set(PrintRacks.DRY, 1);
+        Check.due("racks for a minute", x.count(17), 4);
+        x.due(1, 94);
+        Check.due("late by a minute", x.count(11), 1);
+        x.due(1, 95);
+        Check.due("late by none", x.count(11), 0);
     }
 
     private static void viewsChangeNothing() {
