@@ -2,15 +2,29 @@
 final class Check {
     private static int wrong = 0;
     private static int seen = 0;
+    private static String test = "";
 
     private Check() {
+    }
+
+    /** The name of the test from here on: a wrong answer is told with it. */
+    static void begin(String name) {
+        test = name + ": ";
     }
 
     static void due(String call, long got, long want) {
         seen++;
         if (got != want) {
             wrong++;
-            System.out.println(call + " answered " + got + ", due is " + want);
+            System.out.println(test + call + " answered " + got + ", due is " + want);
+        }
+    }
+
+    static void dueText(String what, String got, String want) {
+        seen++;
+        if (!got.equals(want)) {
+            wrong++;
+            System.out.println(test + what + " there is " + got + ", due is " + want);
         }
     }
 
@@ -52,7 +66,8 @@ final class Check {
     /** The jobs of a board as a text, each with its due time. */
     static String jobs(PrintRacks x) {
         StringBuilder text = new StringBuilder();
-        for (int job = 0; job < x.count(7); job++) {
+        int jobs = x.count(7);
+        for (int job = 0; job < jobs; job++) {
             text.append(job == 0 ? "" : ";");
             text.append('p').append(x.jobOf(job, 0)).append('s').append(x.jobOf(job, 1));
             text.append('n').append(x.jobOf(job, 2)).append('d').append(x.jobOf(job, 3));
@@ -61,11 +76,6 @@ final class Check {
     }
 
     static void dueJobs(String behind, PrintRacks x, String want) {
-        seen++;
-        String got = jobs(x);
-        if (!got.equals(want)) {
-            wrong++;
-            System.out.println("behind " + behind + " the board is " + got + ", due is " + want);
-        }
+        dueText("behind " + behind + " on the board", jobs(x), want);
     }
 }

@@ -1,7 +1,8 @@
 /** All promises: long runs of mixed calls, each answer compared with that of the Model. */
 public final class ModelTest {
-    private static final int RUNS = 150;
-    private static final int CALLS = 512;
+    private static final int RUNS = 200;
+    // A step is a call, or a few of them; what an object answers behind its 512th call is free.
+    private static final int STEPS = 380;
     private static final String SIGNS = "psnd;0123456789x";
 
     private static long seed;
@@ -18,7 +19,7 @@ public final class ModelTest {
             if (run % 5 == 4) {
                 test.startTight();
             }
-            for (int call = 0; call < CALLS - 20; call++) {
+            for (int call = 0; call < STEPS; call++) {
                 test.step("run " + run + ", call " + call + ": ");
             }
         }
@@ -41,7 +42,7 @@ public final class ModelTest {
     }
 
     private int someJob() {
-        return value(0, Math.max(0, x.count(7) - 1));
+        return value(0, Math.max(0, model.count(7) - 1));
     }
 
     /** Few racks and a long time to dry: so the press waits often. */
@@ -143,7 +144,7 @@ public final class ModelTest {
             Check.due(where + "put " + wild, x.put(wild), model.put(wild));
             return;
         }
-        StringBuilder text = new StringBuilder(x.count(18) > 0 && number(4) > 0 ? ";" : "");
+        StringBuilder text = new StringBuilder(model.count(18) > 0 && number(4) > 0 ? ";" : "");
         text.append('p').append(number(10)).append('s').append(number(10)).append('n').append(number(21));
         if (number(2) == 0) {
             text.append('d').append(number(number(2) == 0 ? 3002 : 300));
