@@ -1,13 +1,12 @@
 /** Promises 19 to 21: undo, save, restore. */
 final class HistorySentences {
     private static final String JOBS = "p1s1n1d9;p3s2n2d8;p2s3n3d7";
+    private static final int CHANGES = 8;
 
     private HistorySentences() {
     }
 
-    private static final int CHANGES = 8;
-
-    /** Each of the methods that are changes, on a board of at least two jobs, with a job on the pad and slot 0 saved. */
+    /** Each of the methods that are changes; there are two jobs at least, a job on the pad, and slot 0 is saved. */
     private static int change(PrintRacks x, int which) {
         switch (which) {
             case 0: return x.set(PrintRacks.RUN, 9);

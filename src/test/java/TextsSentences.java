@@ -1,6 +1,7 @@
 /** The texts in the terms; promises 16 to 18: put, wipe, fault. */
 final class TextsSentences {
     private static final int NONE = PrintRacks.NONE;
+    private static final String DIGITS = "0123456789";
 
     private TextsSentences() {
     }
@@ -35,8 +36,6 @@ final class TextsSentences {
             }
         }
     }
-
-    private static final String DIGITS = "0123456789";
 
     // ---- the terms
 
